@@ -1,6 +1,6 @@
 import java.util.Arrays;
 
-/** Are we there yet: a ride, the answers told on it, and what may be asked of both. DOC.md tells each call's promise. */
+/** Are we there yet: a ride, the answers told on it, and what may be asked of both; DOC.md tells what each call is. */
 public final class NotYetSaid {
     public static final int BAD = -1, FULL = -2, NONE = -3, STATE = -4;
 
@@ -250,7 +250,8 @@ public final class NotYetSaid {
         int by = NONE;
         for (int a = 0; a < ride.answerCount; a++) {
             Answer one = ride.answerAt(a);
-            if (one != null) {
+            // What can be told as often as a ROW is long is never short of LEFT.
+            if (one != null && one.left - one.told < LONGEST_ROW) {
                 one.left++;
                 int then = Search.kindest(ride, LONGEST_ROW, most);
                 one.left--;
@@ -611,7 +612,7 @@ public final class NotYetSaid {
         return between(k, 0, rowCount - 1) && k < LONGEST_ROW && between(what, 0, ROW_ITEMS - 1);
     }
 
-    /** The ANSWER on a SHELF, as it is at this time; null for a row, nothing, no such SHELF, no such ANSWER any more. */
+    /** The ANSWER on a SHELF, if there is one at this time; again() may have taken it away. */
     private Answer thingOn(int shelf) {
         return host.holdsAnswer(shelf) ? ride.answerAt(host.numberOn(shelf)) : null;
     }
@@ -1516,8 +1517,8 @@ public final class NotYetSaid {
             if (isDigit(first)) {
                 return till - from <= MOST_DIGITS ? NUMBER : UNFIT;
             }
-            boolean isSign = first == '<' || first == '=' || first == '>' || first == '(' || first == ')' || first == ';';
-            return isSign ? first : UNFIT;
+            boolean compares = first == '<' || first == '=' || first == '>';
+            return compares || first == '(' || first == ')' || first == ';' ? first : UNFIT;
         }
 
         private int wordOf(int from, int till) {
@@ -1570,7 +1571,7 @@ public final class NotYetSaid {
         private final int[] sorts = {NO_ROW, NO_ROW, NO_ROW, NO_ROW};
         private final int[] lengths = new int[SHEETS];
         private final int[][] items = new int[SHEETS][MOST_ITEMS];
-        /** A row's sort, or one of the two others; a row's sort and length never change, so these are all of it here. */
+        /** A row's sort, or one of the two above; only a row's sort and length are asked, and these never change. */
         private final int[] shelved = {NOTHING, NOTHING, NOTHING, NOTHING};
         private final int[] shelvedNumbers = new int[SHELVES];
         private final int[] bodies = new int[MOST_BODIES];
