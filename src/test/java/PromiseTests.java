@@ -291,6 +291,10 @@ public final class PromiseTests {
         y.answer(2, 10, 0, 1);
         y.say(0);
         due("where it just begins", y.drives(1, 20, 0), STATE);
+        NotYetSaid z = road(10, 0);
+        z.answer(2, 1, 0, 1);
+        z.say(0);
+        due("at minute 1", z.drives(0, 20, 0), STATE);
     }
 
     private static void belief() {
@@ -322,6 +326,22 @@ public final class PromiseTests {
         for (int what : new int[] {-1, 5, LEAST, MOST}) {
             due("state(" + what + ")", x.state(what), BAD);
         }
+        NotYetSaid y = road(3, 1);
+        y.leg(1, 2);
+        y.answer(2, 1, 0, 9);
+        int[][] legs = {{0, 1}, {0, 1}, {0, 1}, {1, 2}, {2, 0}};
+        y.change(0, 1, 1);
+        rules(y, "answer less 99;");
+        for (int minute = 0; minute < 3; minute++) {
+            due("state(2) at " + minute, y.state(2), legs[minute][0]);
+            due("state(3) at " + minute, y.state(3), legs[minute][1]);
+            due("say(0)", y.say(0), 1);
+        }
+        due("state(2) at 3", y.state(2), legs[3][0]);
+        due("state(3) at 3", y.state(3), legs[3][1]);
+        due("say(0)", y.say(0), 1);
+        due("state(2) at 4", y.state(2), legs[4][0]);
+        due("state(3) at 4", y.state(3), legs[4][1]);
     }
 
     private static void anew() {
@@ -407,7 +427,8 @@ public final class PromiseTests {
             {"answer", 6}, {"answer ", 7}, {"answer;", 6}, {"answer game", 7}, {"answer more", 11}, {"answer more ", 12},
             {"answer more;", 11}, {"answer more nil;", 12}, {"answer more 100;", 12}, {"answer more 12345;", 12},
             {"answer less 0100;", 12}, {"answer less 5", 13}, {"answer less 5 6;", 14}, {"answer nil 5;", 11}, {"answer nil", 10},
-            {"answer nil;x", 11}, {"answer nil;;", 11}, {"answernil;", 0}, {"answer nilx;", 7}, {"answer\tnil;", 6},
+            {"answer nil;x", 11}, {"answer nil;;", 11}, {"answernil;", 0}, {"answer nilx;", 7}, {"gamez nil;", 0}, {"answer nilz;", 7}, {"xnswer nil;", 0}, {"noon nil;", 0}, {"a nil;", 0},
+            {"gam nil;", 0}, {"agame nil;", 0}, {"answer  soon nil;", 8}, {"answer mor", 7}, {"answer\tnil;", 6},
             {"answer if nil;", 10}, {"answer if", 9}, {"answer if leg", 13}, {"answer if leg nil;", 14}, {"answer if leg=", 14},
             {"answer if leg==1 nil;", 14}, {"answer if leg=1", 15}, {"answer if leg=1;", 15}, {"answer if leg=1 2 nil;", 16},
             {"answer if leg=10000 nil;", 14}, {"answer if 12345=1 nil;", 10}, {"answer if leg=1 and nil;", 20},
@@ -432,7 +453,9 @@ public final class PromiseTests {
             {"not (1=1 or 1=1)", 0}, {"1=2 or 1=2 or 1=1", 1}, {"1=2 or 1=2 or 1=2", 0}, {"1=1 and 1=1 and 1=2", 0},
             {"1=1 and 1=1 and 1=1", 1}, {"1=2 or 1=1 and 1=1 or 1=2", 1}, {"((1=2 or 1=1) and (1=1 or 1=2))", 1},
             {"1=1 and (1=2 or (1=1 and (1=2 or 1=1)))", 1}, {"1=1 and (1=2 or (1=1 and (1=2 or 2=1)))", 0},
-            {"leg<mood", 1}, {"told>number", 0}, {"told=number", 1}, {"not(leg=0)and not(mood=0)", 1}};
+            {"leg<mood", 1}, {"told>number", 0}, {"told=number", 1}, {"not(leg=0)and not(mood=0)", 1},
+            {"1=leg", 1}, {"2<leg", 0}, {"2=mood", 1}, {"1=told", 1}, {"95=belief", 1}, {"1=number", 1}, {"0=leg", 0},
+            {"1=2 or 1=1 and 1=2", 0}, {"1=1 or 1=2 and 1=2 or 1=2", 1}, {"1=2 or 1=1 and 1=1 and 1=2", 0}};
         for (Object[] c : all) {
             NotYetSaid x = road(5, 0);
             x.leg(90, 2);
@@ -463,6 +486,8 @@ public final class PromiseTests {
         due("nil", x.answerOf(0, 5), 1);
         x.say(0);
         due("its condition doesn't hold, the next one's does", x.answerOf(0, 5), 10);
+        rules(x, "answer if 1=2 more 40;answer more 30;");
+        due("behind a condition that doesn't hold", x.answerOf(1, 5), 45);
         rules(x, "song more 30;game more 20;");
         x.anew();
         due("game isn't below song", x.answerOf(1, 5), 35);
@@ -471,6 +496,8 @@ public final class PromiseTests {
         jam.answer(2, 9, 0, 9);
         rules(jam, "answer nil;");
         due("5 more by a jam", jam.answerOf(0, 5), 5);
+        rules(jam, "answer less 99;");
+        due("0 at least, and 5 more by a jam", jam.answerOf(0, 5), 5);
         NotYetSaid over = road(5, 2);
         over.answer(2, 5, 0, 9);
         over.say(0);
@@ -525,6 +552,13 @@ public final class PromiseTests {
         due("over", y.can(), 0);
     }
 
+    /** One minute, and one ANSWER that holds for it and takes all that is believed. */
+    private static NotYetSaid allForAMinute() {
+        NotYetSaid x = road(1, 0);
+        x.answer(2, 1, 100, 1);
+        return x;
+    }
+
     /** A ride of 30 minutes; 0 holds 10 for nothing, 1 20 for 30, 2 30 for 90, 3 15 for 10; each as often as one likes. */
     private static NotYetSaid choice() {
         NotYetSaid x = road(30, 0);
@@ -549,6 +583,7 @@ public final class PromiseTests {
         due("five are too many", x.fewest(), NONE);
         due("over", new NotYetSaid().fewest(), 0);
         due("trip", trip().fewest(), 4);
+        due("all for a minute", allForAMinute().fewest(), 1);
         state(x, 0, 9);
     }
 
@@ -579,6 +614,7 @@ public final class PromiseTests {
         }
         state(y, 0, 100);
         due("over", new NotYetSaid().ith(0), NONE);
+        due("all for a minute", allForAMinute().ith(0), 0);
     }
 
     private static void ways() {
@@ -599,6 +635,7 @@ public final class PromiseTests {
         }
         due("the empty one", new NotYetSaid().ways(4), 1);
         due("trip", trip().ways(4), 62);
+        due("all for a minute", allForAMinute().ways(1), 1);
     }
 
     private static void far() {
@@ -616,6 +653,7 @@ public final class PromiseTests {
         x.belief(0);
         due("what costs nothing", x.far(4), 30);
         due("without LEGS", new NotYetSaid().far(3), 0);
+        due("all for a minute", allForAMinute().far(1), 1);
     }
 
     private static void kind() {
@@ -634,6 +672,7 @@ public final class PromiseTests {
             due("kind(" + n + ")", x.kind(n), BAD);
         }
         due("over", new NotYetSaid().kind(0), 100);
+        due("all for a minute", allForAMinute().kind(1), 0);
         state(x, 0, 89);
     }
 
@@ -663,6 +702,7 @@ public final class PromiseTests {
         }
         due("none arrives", y.kindly(3, 0), NONE);
         due("over", new NotYetSaid().kindly(4, 0), NONE);
+        due("all for a minute", allForAMinute().kindly(1, 0), 0);
         NotYetSaid z = road(20, 0);
         z.answer(2, 10, 0, 2);
         z.answer(2, 20, 0, 2);
@@ -694,6 +734,7 @@ public final class PromiseTests {
         due("answerOf(0, 3)", x.answerOf(0, 3), 9);
         due("answerOf(0, 4)", x.answerOf(0, 4), 1);
         due("over", new NotYetSaid().needs(), 0);
+        due("all for a minute", allForAMinute().needs(), 1);
     }
 
     private static void more() {
@@ -721,6 +762,9 @@ public final class PromiseTests {
         y.change(1, 3, 0);
         due("it doesn't arrive by that", y.more(), NONE);
         due("over", new NotYetSaid().more(), NONE);
+        NotYetSaid all = allForAMinute();
+        all.change(0, 3, 0);
+        due("all for a minute", all.more(), 0);
         NotYetSaid z = road(99, 0);
         z.answer(2, 10, 0, 9);
         for (int k = 0; k < 9; k++) {
@@ -753,6 +797,7 @@ public final class PromiseTests {
         rules(x, "answer if belief=100 more 30;");
         due("100", x.beliefFor(1), 100);
         due("over", new NotYetSaid().beliefFor(3), 0);
+        due("all for a minute", allForAMinute().beliefFor(1), 100);
     }
 
     private static void game() {
@@ -775,6 +820,7 @@ public final class PromiseTests {
         x.answer(2, 30, 0, 0);
         due("to win", x.game(4), 0);
         due("over", new NotYetSaid().game(4), 2);
+        due("all for a minute", allForAMinute().game(4), 2);
         for (int n : new int[] {0, 5, -1, LEAST, MOST}) {
             due("game(" + n + ")", x.game(n), BAD);
         }
@@ -798,9 +844,17 @@ public final class PromiseTests {
         x.belief(0);
         due("none can be told", x.play(2), NONE);
         due("over", new NotYetSaid().play(1), NONE);
+        due("all for a minute", allForAMinute().play(4), 0);
         for (int n : new int[] {0, 5, -1, LEAST, MOST}) {
             due("play(" + n + ")", x.play(n), BAD);
         }
+        NotYetSaid two = road(30, 0);
+        two.answer(2, 10, 1, 2);
+        two.answer(2, 10, 100, 1);
+        due("who begins wins", two.game(2), 0);
+        due("by what leaves nothing", two.play(2), 1);
+        due("nobody", two.game(1), 2);
+        due("by the least", two.play(1), 0);
         NotYetSaid lost = road(30, 0);
         lost.answer(2, 10, 0, 1);
         lost.answer(2, 10, 0, 1);
@@ -887,6 +941,12 @@ public final class PromiseTests {
         x.forget();
         x.report(0, 0, 0);
         due("alone", x.liar(), 0);
+        x.report(0, 1, 0);
+        due("but for it 1 fits", x.liar(), 0);
+        x.forget();
+        x.report(0, 59, 1);
+        x.report(0, 60, 1);
+        due("but for it 60 fits", x.liar(), 1);
     }
 
     private static void seed() {
@@ -943,6 +1003,7 @@ public final class PromiseTests {
             due("often(" + n + ")", x.often(n), BAD);
         }
         due("over", new NotYetSaid().often(60), 60);
+        due("all for a minute", allForAMinute().often(4), 4);
         NotYetSaid y = road(31, 0);
         for (int a = 0; a < 4; a++) {
             y.answer(2, 1, 0, 9);
@@ -991,6 +1052,7 @@ public final class PromiseTests {
         due("row(3, 0)", x.row(3, 0), -9);
         NotYetSaid over = new NotYetSaid();
         due("over", over.prove(), 0);
+        due("all for a minute", allForAMinute().prove(), 1);
         due("many(4)", over.many(4), 0);
     }
 
@@ -1297,7 +1359,9 @@ public final class PromiseTests {
                 due("act " + act + " of " + kind, x.act(3, act, 100), done[kind - 1][act]);
                 trace(x, bodies[kind - 1][act]);
             }
-            due("LEAST says", x.act(3, 0, MOST), kind == 1 ? (MOST + 7) * 2 : kind == 3 ? MOST + 6 : MOST + 7);
+            due("shares 98", x.act(3, 2, 98), kind == 4 ? 15 : kind == 5 ? 7 : 16);
+            due("shares 99", x.act(3, 2, 99), kind == 5 ? 8 : 16);
+            due("MOST says", x.act(3, 0, MOST), kind == 1 ? (MOST + 7) * 2 : kind == 3 ? MOST + 6 : MOST + 7);
         }
         actOf0();
         nothingActs();
@@ -1456,7 +1520,9 @@ public final class PromiseTests {
             due("state(4)", x.state(4), 65);
             due("many(1)", x.many(1), 1);
             due("many(2)", x.many(2), 3);
+            due("legOf(2, 0)", x.legOf(2, 0), 30);
             due("legOf(2, 1)", x.legOf(2, 1), 2);
+            due("state(2)", x.state(2), 1);
             due("many(3)", x.many(3), 1);
             due("span(0)", x.span(0), 51);
             due("z", x.seed(42), 42);
