@@ -1237,7 +1237,7 @@ public final class NotYetSaid {
         private final int[] rights = new int[MOST_STEPS];
         private int steps;
 
-        /** A condition of the RULE that is read; 200 bytes tell fewer steps than there is room for. */
+        /** A step of the condition that is read; 200 bytes tell some 80 at most, so there is always room. */
         void addStep(int sign, int left, int right) {
             if (steps < MOST_STEPS) {
                 signs[steps] = sign;
@@ -1388,7 +1388,7 @@ public final class NotYetSaid {
             return true;
         }
 
-        /** ALL { or ALL }, with what is ALL read here too: the steps behind each part tell which sign binds it. */
+        /** ALL and its ONES are read here, too: one method less keeps the calls within the depth that is allowed. */
         private boolean readCondition(int open) {
             int ones = 0;
             int alls = 0;
