@@ -5,7 +5,7 @@ import java.util.function.Consumer;
  * All calls of one run live in one room of some 600,000 objects and 7.3 million fields and elements: what 512 calls of the
  * dearest sort make stays far below that, as bytes of this machine. Each call ends soon, on the most that there can be.
  */
-public final class RoomTests {
+public final class RoomTests extends Checks {
     private static final int CALLS = 512;
     /** Some 7.3 million elements are 29 million bytes at least; a tenth of that is enough for any run. */
     private static final long MOST_BYTES = 2_900_000;
@@ -18,19 +18,8 @@ public final class RoomTests {
                 .getThreadAllocatedBytes(Thread.currentThread().getId());
     }
 
-    private static void feed(NotYetSaid x, String text) {
-        for (int from = 0; from < text.length(); from += 8) {
-            int n = Math.min(8, text.length() - from);
-            long eight = 0;
-            for (int k = n - 1; k >= 0; k--) {
-                eight = eight << 8 | text.charAt(from + k);
-            }
-            x.feed(eight, n);
-        }
-    }
-
     /** Nine ANSWERS, eight long LEGS, RULES with many conditions that don't hold; no ROW of four ARRIVES. */
-    private static NotYetSaid full() {
+    private static NotYetSaid dearest() {
         NotYetSaid x = new NotYetSaid();
         for (int a = 0; a < 9; a++) {
             x.answer(1 + a % 5, 20 + a, a % 3, 4);
@@ -53,9 +42,9 @@ public final class RoomTests {
     }
 
     private static void of(String name, Consumer<NotYetSaid> call) {
-        NotYetSaid warm = full();
+        NotYetSaid warm = dearest();
         call.accept(warm);
-        NotYetSaid x = full();
+        NotYetSaid x = dearest();
         long began = System.currentTimeMillis();
         long before = made();
         for (int k = 0; k < CALLS; k++) {
