@@ -172,6 +172,7 @@ public final class EdgeRowsTests extends Checks {
             due("far(" + n + "), LEFT 2", one(99, 10, 0, 2).far(n), 10 * Math.min(n, 2));
             due("far(" + n + "), BELIEF for 3", one(99, 10, 33, 9).far(n), 10 * Math.min(n, 3));
             due("far(" + n + "), not beyond THE END", one(25, 10, 0, 9).far(n), Math.min(10 * n, 25));
+            due("far(" + n + "), minute by minute", one(3, 1, 0, 9).far(n), Math.min(n, 3));
             due("far(" + n + ") of none", stuck().far(n), 10);
             due("far(" + n + "), over", over().far(n), 10);
             due("far(" + n + ") of a new one", new NotYetSaid().far(n), 0);
